@@ -1,0 +1,144 @@
+import java.util.Arrays;
+
+/** Promise 5: at most 16384 bytes, and the first wrong thing that is met counts. */
+public final class UnpackLimitTest {
+    public static void main(String[] args) {
+        limitByLiterals();
+        limitByCopies();
+        limitByStored();
+        brokenBehindTheLimit();
+        brokenAtTheLimit();
+        brokenBeforeTheLimit();
+        theBoxGoesOn();
+        Check.finish();
+    }
+
+    /** The last block, fixed and not yet ended, of so many bytes 65. */
+    private static Bits row(int length) {
+        return row(length, true);
+    }
+
+    /** The same in a block that has ended and is not the last. */
+    private static Bits before(int length) {
+        return row(length, false).literal(256);
+    }
+
+    private static Bits row(int length, boolean last) {
+        Bits bits = Bits.zlib().fixed(last).literal(65);
+        int left = length - 1;
+        while (left >= 258 + 3) {
+            bits.longCopy(1);
+            left -= 258;
+        }
+        // What is left is 3 .. 260 bytes.
+        for (; left > 10; left -= 8) {
+            bits.copy(262, 0, 0, 0);
+        }
+        for (; left > 0; left--) {
+            bits.literal(65);
+        }
+        return bits;
+    }
+
+    private static byte[] content(int length) {
+        return Boxes.filled(length, 65);
+    }
+
+    private static void limitByLiterals() {
+        Unpacking.good("16383", row(16383).end(content(16383)), content(16383));
+        Unpacking.good("16384", row(16384).end(content(16384)), content(16384));
+        Unpacking.tooMany("16385 by a literal", row(16384).literal(65).end(content(16385)));
+        Unpacking.tooMany("16386 by literals", row(16384).literal(65).literal(65).end(content(16386)));
+        Unpacking.tooMany("16385", row(16385).end(content(16385)));
+    }
+
+    private static void limitByCopies() {
+        Unpacking.good("16384 by a copy", row(16381).copy(257, 0, 0, 0).end(content(16384)), content(16384));
+        Unpacking.tooMany("16385 by a copy", row(16382).copy(257, 0, 0, 0).end(content(16385)));
+        Unpacking.good("16384 by a long copy", row(16384 - 258).longCopy(1).end(content(16384)), content(16384));
+        Unpacking.tooMany("16385 by a long copy", row(16385 - 258).longCopy(1).end(content(16385)));
+        Unpacking.tooMany("16384 and a copy", row(16384).copy(257, 0, 0, 0).end(content(16387)));
+        Unpacking.good("a copy from 16381 back", row(16381).copy(257, 0, 0, 27).number(16381 - 12289, 12).end(content(16384)), content(16384));
+        Unpacking.tooMany("a copy from 16384 back", row(16384).copy(257, 0, 0, 27).number(4095, 12).end(content(16387)));
+    }
+
+    private static void limitByStored() {
+        for (int more = 0; more < 3; more++) {
+            byte[] stored = content(100 + more);
+            byte[] all = content(16384 + more);
+            byte[] tape = before(16284).stored(true, stored).endWithout(all);
+            if (more == 0) {
+                Unpacking.good("16384 by stored", tape, all);
+            } else {
+                Unpacking.tooMany("16384 and " + more + " by stored", tape);
+            }
+        }
+        Unpacking.good("16384 and an empty stored block", before(16384).stored(true, new byte[0]).endWithout(content(16384)), content(16384));
+    }
+
+    /** What is wrong only behind the byte that is too many is never met. */
+    private static void brokenBehindTheLimit() {
+        Unpacking.tooMany("then 286", row(16384).literal(65).literal(286).end(content(16385)));
+        Unpacking.tooMany("then the tape ends", row(16384).literal(65).cut());
+        Unpacking.tooMany("then a wrong sum", row(16384).literal(65).end(content(7)));
+        Unpacking.tooMany("then more behind", Boxes.joined(row(16384).literal(65).end(content(16385)), content(9)));
+        Unpacking.tooMany("then kind 3", row(16384).literal(65).literal(256).number(3, 2).endWithout(content(16385)));
+        Unpacking.tooMany("a copy, then the tape ends", row(16384).copy(257, 0, 0, 0).cut());
+        Unpacking.tooMany("stored bytes that end too early later", before(16384).storedHead(true, 50, 65485).bytes(content(1)).cut());
+    }
+
+    /** What is wrong before one more byte would be written is met first. */
+    private static void brokenAtTheLimit() {
+        Unpacking.broken("286", row(16384).literal(286).distance(0).end(content(16385)));
+        Unpacking.broken("287", row(16384).literal(287).distance(0).end(content(16385)));
+        Unpacking.broken("distance 30", row(16384).literal(285).distance(30).end(content(16385)));
+        Unpacking.broken("distance 31", row(16384).literal(285).distance(31).end(content(16385)));
+        Unpacking.broken("16385 back", row(16384).copy(257, 0, 0, 28).number(0, 13).end(content(16387)));
+        Unpacking.broken("32768 back", row(16384).copy(257, 0, 0, 29).number(8191, 13).end(content(16387)));
+        Unpacking.broken("the tape ends", row(16384).cut());
+        Unpacking.broken("a wrong sum", row(16384).end(content(16383)));
+        Unpacking.broken("the numbers of a stored block", before(16384).storedHead(true, 50, 50).bytes(content(50)).cut());
+        Unpacking.broken("no byte of a stored block", before(16384).storedHead(true, 50, 65485).cut());
+        Unpacking.broken("the stored bytes end at the limit", before(16334).storedHead(true, 60, 65475).bytes(content(50)).cut());
+        Unpacking.tooMany("one stored byte more", before(16334).storedHead(true, 60, 65475).bytes(content(51)).cut());
+        Unpacking.broken("told codes", before(16384).told(true, new int[257], new int[1]).literal(256).endWithout(content(16384)));
+        Unpacking.broken("a copy without distances", before(16384).told(true, copies(), new int[1]).literal(257).bit(0).endWithout(content(9)));
+        Unpacking.broken("kind 3", before(16384).number(7, 3).endWithout(content(16384)));
+        brokenInsideACopy();
+    }
+
+    private static int[] copies() {
+        int[] literals = new int[258];
+        literals[256] = 1;
+        literals[257] = 1;
+        return literals;
+    }
+
+    /** The tape ends in the bits behind a distance; the byte's other bits would make it whole. */
+    private static void brokenInsideACopy() {
+        byte[] tape = row(16384).copy(284, 31, 5, 27).number(4095, 12).cut();
+        Unpacking.tooMany("a whole copy", tape);
+        Unpacking.broken("a copy without its last bits", Arrays.copyOf(tape, tape.length - 2));
+    }
+
+    private static void brokenBeforeTheLimit() {
+        Unpacking.broken("286 before many bytes", row(2000).literal(286).literal(65).end(content(2001)));
+        Unpacking.broken("65535 stored bytes, few there", Bits.zlib().storedHead(true, 65535, 0).bytes(content(5000)).cut());
+    }
+
+    private static void theBoxGoesOn() {
+        ZlibBox x = new ZlibBox();
+        Boxes.load(x, row(16384).end(content(16384)));
+        Check.due("unpack()", x.unpack(), 16384);
+        Boxes.load(x, row(16384).literal(66).end(content(16385)));
+        Check.throwsDue("unpack()", IndexOutOfBoundsException.class, x::unpack);
+        Check.due("count(1)", x.count(1), 16384);
+        Check.due("word(16376)", x.word(16376), 0x4141414141414141L);
+        Boxes.load(x, Bits.zlib().fixed(true).literal(66).literal(286).end(content(1)));
+        Check.throwsDue("unpack()", UnsupportedOperationException.class, x::unpack);
+        Check.due("word(0)", x.word(0), 0x4141414141414141L);
+        Boxes.load(x, Bits.zlib().fixed(true).literal(66).end(Boxes.bytes(66)));
+        Check.due("unpack()", x.unpack(), 1);
+        Check.due("word(0)", x.word(0), 66L << 56);
+    }
+}
