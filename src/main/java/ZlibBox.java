@@ -100,7 +100,6 @@ public final class ZlibBox {
         }
         long word = 0;
         for (int k = 0; k < 8; k++) {
-            // Counted as what is left, since i + k could stand behind the array's end.
             int value = k < resultLength - i ? result[i + k] & 255 : 0;
             word = word << 8 | value;
         }
@@ -298,12 +297,11 @@ public final class ZlibBox {
 
         private void makeFixedCodes() {
             int[] row = new int[288];
-            Arrays.fill(row, 0, 144, 8);
-            Arrays.fill(row, 144, 256, 9);
-            Arrays.fill(row, 256, 280, 7);
-            Arrays.fill(row, 280, 288, 8);
+            for (int i = 0; i < 288; i++) {
+                row[i] = i < 144 ? 8 : i < 256 ? 9 : i < 280 ? 7 : 8;
+            }
             fixedLiterals.make(row, 0, 288);
-            Arrays.fill(row, 0, 32, 5);
+            Arrays.fill(row, 5);
             fixedDistances.make(row, 0, 32);
         }
 
@@ -379,7 +377,7 @@ public final class ZlibBox {
         }
 
         private void readLengthCodes(int told) {
-            Arrays.fill(lengths, 0, LENGTH_CODES, 0);
+            Arrays.fill(lengths, 0);
             for (int i = 0; i < told; i++) {
                 lengths[LENGTH_ORDER[i]] = in.number(3);
             }
@@ -420,7 +418,9 @@ public final class ZlibBox {
             if (times > total - have) {
                 throw new UnsupportedOperationException("too many lengths");
             }
-            Arrays.fill(lengths, have, have + times, value);
+            for (int i = 0; i < times; i++) {
+                lengths[have + i] = value;
+            }
             return have + times;
         }
 
@@ -501,7 +501,7 @@ public final class ZlibBox {
             putNumber(1, 2);
             writeTape();
             putLiteral(BLOCK_END);
-            fillByte();
+            putLastBits();
             putAdler(adlerOf(tape, length));
             return written;
         }
@@ -535,7 +535,6 @@ public final class ZlibBox {
         /** Goes from the nearest place to the farthest, so that only a longer copy is better. */
         private void findCopy(int place) {
             copyLength = 0;
-            copyDistance = 0;
             int most = Math.min(LONGEST_COPY, inLength - place);
             if (most < SHORTEST_COPY) {
                 return;
@@ -629,11 +628,9 @@ public final class ZlibBox {
             }
         }
 
-        private void fillByte() {
+        private void putLastBits() {
             if (heldCount > 0) {
                 putByte(heldBits);
-                heldBits = 0;
-                heldCount = 0;
             }
         }
 

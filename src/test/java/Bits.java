@@ -144,6 +144,11 @@ final class Bits {
         return literalLengths == null ? other : other.codes(literalLengths, distanceLengths);
     }
 
+    /** The whole bytes of what stands here so far; the bits behind them are left out. */
+    byte[] whole() {
+        return out.toByteArray();
+    }
+
     /** What stands here so far, filled up to whole bytes. */
     byte[] cut() {
         return toByte().out.toByteArray();

@@ -199,8 +199,9 @@ public final class PackTest {
                 Check.due("adler() behind it", x.adler(), Boxes.adler(tape));
                 Check.due("count(1) behind it", x.count(1), length);
                 Check.due("word(0) behind it", x.word(0), Boxes.wordAt(tape, 0));
-                x.end(14557);
-                Check.due("pack() of 14557", x.pack(), Boxes.LIMIT);
+                x.end(30);
+                x.pack();
+                Boxes.resultDue("pack() behind it", x, Reference.pack(Arrays.copyOf(tape, 30)));
             }
         }
         byte[] zeros = new byte[Boxes.LIMIT];

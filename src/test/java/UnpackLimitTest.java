@@ -9,6 +9,7 @@ public final class UnpackLimitTest {
         brokenBehindTheLimit();
         brokenAtTheLimit();
         brokenBeforeTheLimit();
+        theLongestTapes();
         theBoxGoesOn();
         Check.finish();
     }
@@ -105,6 +106,7 @@ public final class UnpackLimitTest {
         Unpacking.broken("a copy without distances", before(16384).told(true, copies(), new int[1]).literal(257).bit(0).endWithout(content(9)));
         Unpacking.broken("kind 3", before(16384).number(7, 3).endWithout(content(16384)));
         brokenInsideACopy();
+        brokenInsideALiteral();
     }
 
     private static int[] copies() {
@@ -119,6 +121,50 @@ public final class UnpackLimitTest {
         byte[] tape = row(16384).copy(284, 31, 5, 27).number(4095, 12).cut();
         Unpacking.tooMany("a whole copy", tape);
         Unpacking.broken("a copy without its last bits", Arrays.copyOf(tape, tape.length - 2));
+    }
+
+    /** The last literal is too many, but only if all of its bits are there: 0 .. 7 of them are cut off. */
+    private static void brokenInsideALiteral() {
+        for (int shift = 0; shift < 8; shift++) {
+            Bits bits = row(16384 - shift);
+            for (int i = 0; i < shift; i++) {
+                bits.literal(200);
+            }
+            bits.literal(65);
+            byte[] tape = bits.whole();
+            if (bits.atByte()) {
+                Unpacking.tooMany("a whole literal", tape);
+            } else {
+                Unpacking.broken("a literal without its last bits, " + shift, tape);
+            }
+        }
+    }
+
+    /** Tapes of 16384 bytes: nothing may be read behind their end. */
+    private static void theLongestTapes() {
+        byte[] stored = new byte[16373];
+        ZlibBox x = Boxes.loaded(Bits.zlib().stored(true, stored).endWithout(stored));
+        Check.due("count(0)", x.count(0), 16384);
+        Check.due("unpack() of 16384", x.unpack(), 16373);
+        byte[][] broken = {
+            Bits.zlib().storedHead(true, 16377, 65535 - 16377).bytes(new byte[16377]).cut(),
+            Bits.zlib().storedHead(true, 16378, 65535 - 16378).bytes(new byte[16377]).cut(),
+            literals(16384 - 2),
+        };
+        for (byte[] tape : broken) {
+            ZlibBox y = Boxes.loaded(tape);
+            Check.due("count(0)", y.count(0), 16384);
+            Check.throwsDue("unpack() of 16384", UnsupportedOperationException.class, y::unpack);
+            Check.due("count(0) behind it", y.count(0), 0);
+        }
+    }
+
+    private static byte[] literals(int length) {
+        Bits bits = Bits.zlib().fixed(true);
+        for (int i = 0; i < length; i++) {
+            bits.literal(0);
+        }
+        return bits.whole();
     }
 
     private static void brokenBeforeTheLimit() {

@@ -117,7 +117,7 @@ public final class UnpackToldTest {
     private static void fewLengthCodes() {
         int[] order = {16, 17, 18, 0, 8, 7, 9, 6, 10, 5, 11, 4, 12, 3, 13, 2, 14, 1, 15};
         for (int told = 18; told <= 19; told++) {
-            Bits bits = Bits.zlib().told(false, literals(1, 2, 2, 0), NO_DISTANCE).literal('a').literal(256);
+            Bits bits = Bits.zlib().told(false, manyShort(), NO_DISTANCE).literal('a').literal(256);
             bits.number(1, 1).number(2, 2).number(0, 5).number(0, 5).number(told - 4, 4);
             int[] lengthCodes = new int[19];
             lengthCodes[0] = 1;
@@ -130,10 +130,19 @@ public final class UnpackToldTest {
             for (int length : literals(1, 2, 2, 0)) {
                 bits.code(codes[length], lengthCodes[length]);
             }
-            bits.code(codes[0], 1).literal('b').literal('a');
+            bits.code(codes[0], 1).codes(literals(1, 2, 2, 0), NO_DISTANCE).literal('b').literal('a');
             Unpacking.good(told + " told", bits.end(AB), AB);
         }
         fiveLengthCodes();
+    }
+
+    /** 32 CODES of 5 bits, 0 .. 18 among them, which could be taken for lengths told to the next block. */
+    private static int[] manyShort() {
+        int[] literals = new int[257];
+        Arrays.fill(literals, 0, 30, 5);
+        literals['a'] = 5;
+        literals[256] = 5;
+        return literals;
     }
 
     /** 16 17 18 0 8 alone: 257 CODES of 8 bits are one too many, but 256 of them are enough. */
@@ -238,17 +247,15 @@ public final class UnpackToldTest {
         }
     }
 
-    /** The distances are all zeros and end in a run that is as long as it may be, or longer. */
+    /** As many lengths as can be told, ending in a run that is as long as it may be, or longer. */
     private static byte[] endingInRun(int symbol, int least, int bits, int more) {
-        int distances = 20;
-        Bits told = Bits.zlib().toldHead(true, 257, distances, Bits.PLAIN_LENGTH_CODES);
+        Bits told = Bits.zlib().toldHead(true, 286, 30, Bits.PLAIN_LENGTH_CODES);
         for (int length : literals(1, 2, 2, 0)) {
             told.length(length);
         }
-        for (int i = 0; i < distances - least - 1; i++) {
+        for (int i = 257; i < 286 + 30 - least; i++) {
             told.length(0);
         }
-        told.length(0);
         told.length(symbol).number(more, bits);
         return told.codes(literals(1, 2, 2, 0), NO_DISTANCE).literal('a').literal('b').literal('a').end(AB);
     }
