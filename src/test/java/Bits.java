@@ -121,6 +121,25 @@ final class Bits {
         return literal(285).distance(distance - 1);
     }
 
+    /** So many times the same byte in the fixed block that has begun, in few bits. */
+    Bits run(int value, int length) {
+        int left = length;
+        if (left > 0) {
+            literal(value);
+            left--;
+        }
+        for (; left >= 258; left -= 258) {
+            longCopy(1);
+        }
+        for (; left >= 10; left -= 10) {
+            copy(264, 0, 0, 0);
+        }
+        for (; left > 0; left--) {
+            literal(value);
+        }
+        return this;
+    }
+
     Bits copy(int lengthSymbol, int more, int moreBits, int distanceSymbol) {
         return literal(lengthSymbol).number(more, moreBits).distance(distanceSymbol);
     }

@@ -15,12 +15,7 @@ final class Boxes {
 
     /** The tape becomes these bytes; long rows come packed, and the result changes too, if that is shorter. */
     static void load(ZlibBox x, byte[] bytes) {
-        byte[] packed = bytes;
-        if (bytes.length > SHORT_TAPE) {
-            byte[] copied = deflated(bytes, Deflater.BEST_COMPRESSION, Deflater.DEFAULT_STRATEGY);
-            byte[] coded = deflated(bytes, Deflater.BEST_COMPRESSION, Deflater.HUFFMAN_ONLY);
-            packed = coded.length < copied.length ? coded : copied;
-        }
+        byte[] packed = bytes.length > SHORT_TAPE ? shortest(bytes) : bytes;
         if (packed.length < bytes.length) {
             feed(x, packed);
             x.unpack();
@@ -28,6 +23,13 @@ final class Boxes {
         } else {
             feed(x, bytes);
         }
+    }
+
+    /** ZLIB that gives these bytes and needs few calls to be fed. */
+    static byte[] shortest(byte[] bytes) {
+        byte[] copied = deflated(bytes, Deflater.BEST_COMPRESSION, Deflater.DEFAULT_STRATEGY);
+        byte[] coded = deflated(bytes, Deflater.BEST_COMPRESSION, Deflater.HUFFMAN_ONLY);
+        return coded.length < copied.length ? coded : copied;
     }
 
     /** The odd bytes are fed first, so that a tape of any length up to the limit can be fed. */

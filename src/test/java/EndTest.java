@@ -4,7 +4,9 @@ import java.util.Arrays;
 public final class EndTest {
     public static void main(String[] args) {
         firstBytesAreKept();
-        wrongEndsChangeNothing();
+        everyEndOfAShortTape();
+        theEndsOfTapes();
+        whatIsCutOffDoesNotComeBack();
         Check.finish();
     }
 
@@ -21,23 +23,36 @@ public final class EndTest {
         }
     }
 
-    private static void wrongEndsChangeNothing() {
-        ZlibBox x = new ZlibBox();
-        x.feed(1, 2, 3, 4, 5);
-        x.pack();
-        int packed = x.count(1);
-        int adler = x.adler();
-        for (int n : new int[] {-1, -2, 21, 22, 40, 16384, Integer.MAX_VALUE, Integer.MIN_VALUE}) {
-            Check.throwsDue("end(" + n + ")", IllegalArgumentException.class, () -> x.end(n));
-            Check.due("count(0)", x.count(0), 20);
-            Check.due("adler()", x.adler(), adler);
-            Check.due("count(1)", x.count(1), packed);
+    private static void everyEndOfAShortTape() {
+        for (int n = -3; n <= 23; n++) {
+            Held x = new Held("a tape of 20").pack().feed(0x01020304, -2, -3, -4, 0x0A0B0C0D);
+            if (n >= 0 && n <= 20) {
+                x.end(n).stateDue();
+            } else {
+                x.endRefused(n);
+            }
+            x.pack().stateDue();
         }
-        Check.due("end(20)", x.end(20), 20);
-        Check.due("end(19)", x.end(19), 19);
-        Check.throwsDue("end(20) behind end(19)", IllegalArgumentException.class, () -> x.end(20));
-        Check.due("count(1) behind end", x.count(1), packed);
-        Check.due("end(0)", x.end(0), 0);
-        Check.throwsDue("end(1) behind end(0)", IllegalArgumentException.class, () -> x.end(1));
+    }
+
+    /** "n 0 .. its length", for the shortest and the longest tapes too. */
+    private static void theEndsOfTapes() {
+        for (int length : new int[] {0, 1, 2, 20, 255, 256, 16383, 16384}) {
+            Held x = Held.holding("a tape of " + length, Rows.pattern(length));
+            x.endRefused(-1).endRefused(Integer.MIN_VALUE);
+            x.endRefused(length + 1).endRefused(length + 2).endRefused(length + 65536).endRefused(Integer.MAX_VALUE);
+            x.end(length).stateDue();
+            if (length > 0) {
+                x.end(length - 1).stateDue().endRefused(length);
+            }
+            x.end(0).stateDue().endRefused(1).endRefused(-1).end(0).stateDue();
+        }
+    }
+
+    private static void whatIsCutOffDoesNotComeBack() {
+        Held x = new Held("behind end").feed(-1, -2, -3, -4, -5).end(7).endRefused(8).endRefused(20);
+        x.feed(0, 0, 0, 0, 0).stateDue().pack().stateDue();
+        Held y = Held.holding("the longest tape", Rows.pattern(Boxes.LIMIT)).end(1).feed(1, 2, 3, 4, 5).stateDue();
+        y.endRefused(22).endRefused(Boxes.LIMIT).pack().stateDue();
     }
 }

@@ -5,7 +5,9 @@ public final class FeedTest {
     public static void main(String[] args) {
         bytesStandHighestFirst();
         lengthsGrow();
+        everyIntHasItsPlace();
         theLimitIsKept();
+        roomAgainBehindARefusedFeed();
         feedAfterEndWritesOver();
         resultStays();
         Check.finish();
@@ -41,20 +43,37 @@ public final class FeedTest {
         }
     }
 
+    /** "it would have more than 16384": 16364 and 20 is the last that has not. */
     private static void theLimitIsKept() {
-        byte[] all = Boxes.filled(Boxes.LIMIT, 7);
         for (int length = Boxes.LIMIT - 40; length <= Boxes.LIMIT; length++) {
-            ZlibBox x = Boxes.loaded(Arrays.copyOf(all, length));
-            int adler = x.adler();
-            if (length + 20 <= Boxes.LIMIT) {
-                Check.due("feed to " + length, x.feed(0x07070707, 0x07070707, 0x07070707, 0x07070707, 0x07070707), length + 20);
-                Check.due("adler", x.adler(), Boxes.adler(Arrays.copyOf(all, length + 20)));
+            Held x = Held.holding("a tape of " + length, Rows.pattern(length));
+            if (length <= 16364) {
+                x.feed(0x01020304, -1, Integer.MIN_VALUE, 0, 0x0A0B0C0D).stateDue();
             } else {
-                Check.throwsDue("feed to " + length, IndexOutOfBoundsException.class, () -> x.feed(1, 2, 3, 4, 5));
-                Check.due("count(0) behind it", x.count(0), length);
-                Check.due("adler() behind it", x.adler(), adler);
-                Check.due("count(1) behind it", x.count(1), length);
+                x.feedRefused(0x01020304, -1, Integer.MIN_VALUE, 0, 0x0A0B0C0D);
             }
+        }
+    }
+
+    /** Refused bytes are not kept anywhere: what is fed when there is room again stands where it should. */
+    private static void roomAgainBehindARefusedFeed() {
+        Held x = Held.holding("a full tape", Rows.pattern(Boxes.LIMIT));
+        x.feedRefused(1, 1, 1, 1, 1).end(16365).feedRefused(2, 2, 2, 2, 2);
+        x.end(16364).feed(3, 4, 5, 6, 7).stateDue().feedRefused(8, 8, 8, 8, 8);
+        x.pack().stateDue().again().stateDue();
+        Held y = Held.holding("a tape of 16379", Rows.pattern(16379));
+        y.feedRefused(1, 2, 3, 4, 5).end(0).feed(6, 7, 8, 9, 10).stateDue().pack().stateDue();
+    }
+
+    /** "The 20 bytes of five ints, the highest of each first": with each int at its least, most and between. */
+    private static void everyIntHasItsPlace() {
+        int[] values = {0, 1, -1, 0x01020304, 0x80818283, Integer.MAX_VALUE, Integer.MIN_VALUE, 0x000000FF, 0xFF000000};
+        for (int value : values) {
+            Held x = new Held("feed of " + value);
+            x.feed(value, 0, 0, 0, 0).feed(0, value, 0, 0, 0).feed(0, 0, value, 0, 0);
+            x.feed(0, 0, 0, value, 0).feed(0, 0, 0, 0, value).feed(value, value, value, value, value).stateDue();
+            byte[] tape = x.tape();
+            x.pack().again().unpack(tape).stateDue();
         }
     }
 

@@ -9,8 +9,27 @@ public final class NewObjectTest {
         Check.throwsDue("end(1)", IllegalArgumentException.class, () -> x.end(1));
         Check.due("end(0)", x.end(0), 0);
         Check.due("again()", x.again(), 0);
+        everyFirstCallFindsBothEmpty();
+        refusedCallsLeaveBothEmpty();
         objectsShareNothing();
         Check.finish();
+    }
+
+    private static void everyFirstCallFindsBothEmpty() {
+        new Held("feed first").feed(1, 2, 3, 4, 5).stateDue();
+        new Held("end first").end(0).stateDue();
+        new Held("again first").again().stateDue();
+        new Held("pack first").pack().stateDue();
+        new Held("adler first").adler().stateDue();
+        new Held("count(0) first").count(0).stateDue();
+        new Held("count(1) first").count(1).stateDue();
+    }
+
+    private static void refusedCallsLeaveBothEmpty() {
+        new Held("unpack refused first").unpackBroken().unpackBroken().again().feed(1, 2, 3, 4, 5).stateDue();
+        new Held("end refused first").endRefused(1).endRefused(-1).feed(1, 2, 3, 4, 5).stateDue();
+        new Held("word refused first").wordRefused(0).wordRefused(-1).wordRefused(1).pack().stateDue();
+        new Held("count refused first").countRefused(2).countRefused(-1).pack().stateDue();
     }
 
     private static void objectsShareNothing() {

@@ -75,27 +75,9 @@ public final class PackTest {
         packDue("257", last, written(last, Bits.zlib().fixed(true).literal(200).copy(284, 30, 5, 0)));
     }
 
-    /** A row without any three bytes twice; its values are 128 .. 255. */
-    private static byte[] rowWithoutCopies(int length) {
-        byte[] row = new byte[length];
-        boolean[] used = new boolean[1 << 21];
-        for (int i = 0; i < length; i++) {
-            int value = (i * 37) & 127;
-            if (i >= 2) {
-                int pair = (row[i - 2] & 127) << 14 | (row[i - 1] & 127) << 7;
-                while (used[pair | value]) {
-                    value = value + 1 & 127;
-                }
-                used[pair | value] = true;
-            }
-            row[i] = (byte) (128 + value);
-        }
-        return row;
-    }
-
     private static void theWindow() {
         for (int distance = 4090; distance <= 4102; distance++) {
-            byte[] row = rowWithoutCopies(distance - 4);
+            byte[] row = Rows.withoutCopies(distance - 4);
             byte[] tape = Boxes.joined(Boxes.bytes(1, 2, 3, 4), row, Boxes.bytes(1, 2, 3, 4));
             byte[] want = Reference.pack(tape);
             packDue("the same " + distance + " bytes back", tape, want);
@@ -105,7 +87,7 @@ public final class PackTest {
         }
         for (int distance : new int[] {3, 4, 5, 6, 7, 8, 9, 12, 13, 16, 17, 24, 25, 32, 33, 48, 49, 64, 65, 96, 97, 128,
             129, 192, 193, 256, 257, 384, 385, 512, 513, 768, 769, 1024, 1025, 1536, 1537, 2048, 2049, 3072, 3073}) {
-            byte[] tape = Boxes.joined(Boxes.bytes(1, 2, 3), rowWithoutCopies(distance - 3), Boxes.bytes(1, 2, 3));
+            byte[] tape = Boxes.joined(Boxes.bytes(1, 2, 3), Rows.withoutCopies(distance - 3), Boxes.bytes(1, 2, 3));
             packDue("three bytes " + distance + " back", tape, Reference.pack(tape));
         }
         farthestIsBetter();
@@ -122,7 +104,7 @@ public final class PackTest {
     /** The longer copy is 4096 back, or 4097 and out of reach, and a shorter one is nearer. */
     private static void farthestIsBetter() {
         for (int distance = 4095; distance <= 4098; distance++) {
-            byte[] row = rowWithoutCopies(distance - 9);
+            byte[] row = Rows.withoutCopies(distance - 9);
             byte[] tape = Boxes.joined(Boxes.bytes(1, 2, 3, 4, 5), row, Boxes.bytes(1, 2, 3, 9), Boxes.bytes(1, 2, 3, 4, 5));
             packDue("the longer copy is " + distance + " back", tape, Reference.pack(tape));
         }
@@ -163,31 +145,9 @@ public final class PackTest {
         packDue("no looking ahead", tape, written(tape, bits));
     }
 
-    /**
-     * 32 values in an order that has no three bytes twice: every byte takes 9 bits. From the two
-     * lowest on, always the highest value that is new makes each three of the 32768 once.
-     */
-    private static byte[] incompressible(int length) {
-        byte[] row = new byte[length];
-        boolean[] used = new boolean[1 << 15];
-        for (int i = 0; i < length; i++) {
-            row[i] = (byte) 224;
-            if (i >= 2) {
-                int pair = (row[i - 2] & 31) << 10 | (row[i - 1] & 31) << 5;
-                int value = 31;
-                while (used[pair | value]) {
-                    value--;
-                }
-                used[pair | value] = true;
-                row[i] = (byte) (224 + value);
-            }
-        }
-        return row;
-    }
-
     private static void theLimit() {
         for (int length = 14550; length <= 14565; length++) {
-            byte[] tape = incompressible(length);
+            byte[] tape = Rows.incompressible(length);
             int want = 2 + (3 + 9 * length + 7 + 7) / 8 + 4;
             ZlibBox x = Boxes.loaded(tape);
             if (want <= Boxes.LIMIT) {

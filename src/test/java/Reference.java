@@ -267,11 +267,7 @@ final class Reference {
             int best = 0;
             int far = 0;
             for (int distance = 1; distance <= Math.min(4096, place); distance++) {
-                int length = 0;
-                while (length < 258 && place + length < tape.length
-                        && tape[place + length] == tape[place + length - distance]) {
-                    length++;
-                }
+                int length = alike(tape, place, distance);
                 if (length > best) {
                     best = length;
                     far = distance;
@@ -286,6 +282,15 @@ final class Reference {
             }
         }
         return zeroFilled(bits.literal(256), tape);
+    }
+
+    private static int alike(byte[] tape, int place, int distance) {
+        int length = 0;
+        while (length < 258 && place + length < tape.length
+                && tape[place + length] == tape[place + length - distance]) {
+            length++;
+        }
+        return length;
     }
 
     private static void copy(Bits bits, int length, int distance) {

@@ -13,6 +13,9 @@ public final class UnpackFixedTest {
         overlaps();
         wrongSymbols();
         tooFarBack();
+        theEdgesOfTheFixedCodes();
+        theEdgesOfLengths();
+        asFarBackAsTheFirst();
         Check.finish();
     }
 
@@ -137,5 +140,71 @@ public final class UnpackFixedTest {
             Unpacking.broken((have + 1) + " back of " + have, bits.copyOf().longCopy(have + 1).end(content));
             Unpacking.good(have + " back of " + have, bits.copyOf().longCopy(have).end(content), content);
         }
+    }
+
+    /** The first and the last CODE of each length, as bits written out. */
+    private static void theEdgesOfTheFixedCodes() {
+        int[][] literals = {{0, 0b00110000, 8}, {143, 0b10111111, 8}, {144, 0b110010000, 9}, {255, 0b111111111, 9}};
+        for (int[] row : literals) {
+            byte[] content = Boxes.bytes(row[0]);
+            Unpacking.good("literal " + row[0], Bits.zlib().fixed(true).code(row[1], row[2]).code(0, 7).endWithout(content), content);
+        }
+        Unpacking.good("256", Bits.zlib().fixed(true).code(0b0000000, 7).endWithout(new byte[0]), new byte[0]);
+        int[][] lengths = {{257, 0b0000001, 7, 3, 0}, {279, 0b0010111, 7, 99, 4}, {280, 0b11000000, 8, 115, 4},
+            {284, 0b11000100, 8, 227, 5}, {285, 0b11000101, 8, 258, 0}};
+        for (int[] row : lengths) {
+            Bits bits = Bits.zlib().fixed(true).literal(65).code(row[1], row[2]).number(0, row[4]).code(0, 5);
+            byte[] content = Boxes.filled(1 + row[3], 65);
+            Unpacking.good("symbol " + row[0], bits.code(0, 7).endWithout(content), content);
+        }
+        for (int code : new int[] {0b11000110, 0b11000111}) {
+            for (int length : new int[] {0, 3, 258}) {
+                Bits bits = Bits.zlib().fixed(true).literal(65).code(code, 8).code(0, 5).code(0, 7);
+                Unpacking.broken("286 or 287", bits.endWithout(Boxes.filled(1 + length, 65)));
+            }
+        }
+        for (int code = 28; code < 32; code++) {
+            Bits bits = Bits.zlib().fixed(true).literal(65).literal(257).code(code, 5).number(0, 13).code(0, 7);
+            Unpacking.broken("distance symbol " + code, bits.endWithout(Boxes.filled(4, 65)));
+        }
+    }
+
+    /** 258 in both ways, and the lengths beside those that have another symbol. */
+    private static void theEdgesOfLengths() {
+        lengthDue(10, Bits.zlib().fixed(true).literal(65).copy(264, 0, 0, 0));
+        lengthDue(11, Bits.zlib().fixed(true).literal(65).copy(265, 0, 1, 0));
+        lengthDue(12, Bits.zlib().fixed(true).literal(65).copy(265, 1, 1, 0));
+        lengthDue(13, Bits.zlib().fixed(true).literal(65).copy(266, 0, 1, 0));
+        lengthDue(257, Bits.zlib().fixed(true).literal(65).copy(284, 30, 5, 0));
+        lengthDue(258, Bits.zlib().fixed(true).literal(65).copy(284, 31, 5, 0));
+        lengthDue(258, Bits.zlib().fixed(true).literal(65).copy(285, 0, 0, 0));
+        lengthDue(258 + 258 + 3, Bits.zlib().fixed(true).literal(65).longCopy(1).longCopy(1).copy(257, 0, 0, 0));
+    }
+
+    /** "not before the first": the least and the most of each symbol, with as many bytes before, and one less. */
+    private static void asFarBackAsTheFirst() {
+        for (int symbol = 0; symbol < 28; symbol++) {
+            int more = Math.max(0, symbol / 2 - 1);
+            int least = symbol < 4 ? symbol + 1 : (2 + symbol % 2 << more) + 1;
+            for (int extra : new int[] {0, (1 << more) - 1}) {
+                int distance = least + extra;
+                if (distance + 3 <= Boxes.LIMIT) {
+                    byte[] tape = row(distance).copy(257, 0, 0, symbol).number(extra, more).end(Boxes.filled(distance + 3, 65));
+                    Unpacking.good(distance + " back of as many", tape, Boxes.filled(distance + 3, 65));
+                }
+                byte[] tape = row(distance - 1).copy(257, 0, 0, symbol).number(extra, more).end(Boxes.filled(distance + 2, 65));
+                Unpacking.broken(distance + " back of one less", tape);
+            }
+        }
+        for (int symbol = 28; symbol < 30; symbol++) {
+            for (int extra : new int[] {0, 8191}) {
+                byte[] tape = row(16381).copy(257, 0, 0, symbol).number(extra, 13).end(Boxes.filled(16384, 65));
+                Unpacking.broken("symbol " + symbol + " and " + extra + ", farther than a result is long", tape);
+            }
+        }
+    }
+
+    private static Bits row(int length) {
+        return Bits.zlib().fixed(true).run(65, length);
     }
 }

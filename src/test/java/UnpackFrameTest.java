@@ -12,6 +12,10 @@ public final class UnpackFrameTest {
         anEmptyTape();
         theTapeIsUsedUp();
         manyBlocks();
+        theEdgesOfHeads();
+        whatStandsBehindTheLastBlock();
+        theLastBlockIsTold();
+        theFourKinds();
         Check.finish();
     }
 
@@ -120,5 +124,91 @@ public final class UnpackFrameTest {
         Unpacking.good("600 blocks", bits.fixed(true).end(content), content);
         Unpacking.broken("kind 3, last", Bits.zlib().number(1, 1).number(3, 2).endWithout(new byte[0]));
         Unpacking.broken("kind 3", Bits.zlib().number(0, 1).number(3, 2).fixed(true).end(new byte[0]));
+    }
+
+    /** Each sentence on c and f by itself: all others hold where it is the one that does not. */
+    private static void theEdgesOfHeads() {
+        headDue("c / 16 is 0", 0x08, 0x1D, true);
+        headDue("c / 16 is 7", 0x78, 0x01, true);
+        headDue("c / 16 is 8", 0x88, 0x1C, false);
+        headDue("c / 16 is 15", 0xF8, 0x00, false);
+        headDue("c mod 16 is 7", 0x77, 0x09, false);
+        headDue("c mod 16 is 9", 0x79, 0x18, false);
+        headDue("a multiple of 31 and 1 less", 0x78, 0x00, false);
+        headDue("a multiple of 31 and 1 more", 0x78, 0x02, false);
+        for (int f = 0x01; f < 256; f += 31) {
+            headDue("f / 32 is " + f / 32, 0x78, f, f / 32 % 2 == 0);
+        }
+    }
+
+    private static void headDue(String what, int c, int f, boolean right) {
+        byte[] tape = threeKinds();
+        tape[0] = (byte) c;
+        tape[1] = (byte) f;
+        if (right) {
+            Unpacking.good(what, tape, HELLO);
+        } else {
+            Unpacking.broken(what, tape);
+        }
+    }
+
+    /** "nothing counts up to the next byte's beginning": 0 .. 7 bits, and each word that they can be. */
+    private static void whatStandsBehindTheLastBlock() {
+        for (int literals = 0; literals < 8; literals++) {
+            byte[] content = Boxes.filled(literals, 200);
+            Bits bits = Bits.zlib().fixed(true);
+            for (int i = 0; i < literals; i++) {
+                bits.literal(200);
+            }
+            bits.literal(256);
+            int free = (8 - (3 + 9 * literals + 7) % 8) % 8;
+            for (int word = 0; word < 1 << free; word++) {
+                byte[] tape = bits.copyOf().number(word, free).endWithout(content);
+                Unpacking.good(free + " bits that do not count: " + word, tape, content);
+            }
+            Unpacking.broken(free + " bits and a byte", bits.copyOf().toByte().number(0, 8).endWithout(content));
+        }
+        Unpacking.broken("a byte behind a stored block", Bits.zlib().stored(true, HELLO).number(0, 8).endWithout(HELLO));
+    }
+
+    /** "a bit, 1 for the last one": without it more is read, behind it no more. */
+    private static void theLastBlockIsTold() {
+        byte[] one = Boxes.bytes(65);
+        int[] literals = new int[257];
+        literals[65] = 1;
+        literals[256] = 1;
+        for (int last = 0; last < 2; last++) {
+            boolean isLast = last == 1;
+            byte[][] tapes = {
+                Bits.zlib().stored(isLast, one).endWithout(one),
+                Bits.zlib().fixed(isLast).literal(65).end(one),
+                Bits.zlib().told(isLast, literals, new int[1]).literal(65).end(one),
+            };
+            for (int kind = 0; kind < 3; kind++) {
+                if (isLast) {
+                    Unpacking.good("kind " + kind + ", the last", tapes[kind], one);
+                } else {
+                    Unpacking.broken("kind " + kind + ", none is the last", tapes[kind]);
+                }
+            }
+            byte[] two = isLast ? one : Boxes.bytes(65, 66);
+            byte[] tape = Bits.zlib().fixed(isLast).literal(65).literal(256).fixed(true).literal(66).end(two);
+            if (isLast) {
+                Unpacking.broken("a block behind the last, and the sum of the first", tape);
+            } else {
+                Unpacking.good("two blocks", tape, two);
+            }
+        }
+    }
+
+    /** 3 is no kind, neither first nor behind others, whatever follows. */
+    private static void theFourKinds() {
+        for (int last = 0; last < 2; last++) {
+            Bits start = Bits.zlib().fixed(false).literal(65).literal(256).number(last, 1).number(3, 2);
+            Unpacking.broken("kind 3 behind a block", start.copyOf().endWithout(Boxes.bytes(65)));
+            Unpacking.broken("kind 3 and an end", start.copyOf().code(0, 7).endWithout(Boxes.bytes(65)));
+            Unpacking.broken("kind 3 and a stored row", start.copyOf().toByte().number(0, 16).number(65535, 16).endWithout(Boxes.bytes(65)));
+            Unpacking.broken("kind 3 alone", Bits.zlib().number(last, 1).number(3, 2).cut());
+        }
     }
 }

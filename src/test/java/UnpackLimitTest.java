@@ -6,6 +6,8 @@ public final class UnpackLimitTest {
         limitByLiterals();
         limitByCopies();
         limitByStored();
+        everyCopyToTheLimit();
+        everyStoredRowToTheLimit();
         brokenBehindTheLimit();
         brokenAtTheLimit();
         brokenBeforeTheLimit();
@@ -16,29 +18,12 @@ public final class UnpackLimitTest {
 
     /** The last block, fixed and not yet ended, of so many bytes 65. */
     private static Bits row(int length) {
-        return row(length, true);
+        return Bits.zlib().fixed(true).run(65, length);
     }
 
     /** The same in a block that has ended and is not the last. */
     private static Bits before(int length) {
-        return row(length, false).literal(256);
-    }
-
-    private static Bits row(int length, boolean last) {
-        Bits bits = Bits.zlib().fixed(last).literal(65);
-        int left = length - 1;
-        while (left >= 258 + 3) {
-            bits.longCopy(1);
-            left -= 258;
-        }
-        // What is left is 3 .. 260 bytes.
-        for (; left > 10; left -= 8) {
-            bits.copy(262, 0, 0, 0);
-        }
-        for (; left > 0; left--) {
-            bits.literal(65);
-        }
-        return bits;
+        return Bits.zlib().fixed(false).run(65, length).literal(256);
     }
 
     private static byte[] content(int length) {
@@ -77,6 +62,34 @@ public final class UnpackLimitTest {
         Unpacking.good("16384 and an empty stored block", before(16384).stored(true, new byte[0]).endWithout(content(16384)), content(16384));
     }
 
+    /** Each length of a copy that ends at the last byte there may be, and one byte behind it. */
+    private static void everyCopyToTheLimit() {
+        for (int length = 3; length <= 258; length++) {
+            Bits bits = row(Boxes.LIMIT - length);
+            Unpacking.good("16384 by a copy of " + length, copy(bits.copyOf(), length).end(content(16384)), content(16384));
+            Unpacking.tooMany("16385 by a copy of " + length, copy(bits.literal(65), length).end(content(16385)));
+        }
+    }
+
+    private static Bits copy(Bits bits, int length) {
+        int symbol = 257;
+        int least = 3;
+        int more = 0;
+        while (symbol < 284 && length >= least + (1 << more)) {
+            least += 1 << more;
+            symbol++;
+            more = Math.max(0, (symbol - 261) / 4);
+        }
+        return bits.copy(symbol, length - least, more, 0);
+    }
+
+    private static void everyStoredRowToTheLimit() {
+        for (int n : new int[] {1, 2, 3, 20, 255, 256, 5000}) {
+            Unpacking.good(n + " stored bytes to 16384", before(16384 - n).stored(true, content(n)).endWithout(content(16384)), content(16384));
+            Unpacking.tooMany(n + " stored bytes to 16385", before(16385 - n).stored(true, content(n)).endWithout(content(16385)));
+        }
+    }
+
     /** What is wrong only behind the byte that is too many is never met. */
     private static void brokenBehindTheLimit() {
         Unpacking.tooMany("then 286", row(16384).literal(65).literal(286).end(content(16385)));
@@ -99,14 +112,19 @@ public final class UnpackLimitTest {
         Unpacking.broken("the tape ends", row(16384).cut());
         Unpacking.broken("a wrong sum", row(16384).end(content(16383)));
         Unpacking.broken("the numbers of a stored block", before(16384).storedHead(true, 50, 50).bytes(content(50)).cut());
-        Unpacking.broken("no byte of a stored block", before(16384).storedHead(true, 50, 65485).cut());
-        Unpacking.broken("the stored bytes end at the limit", before(16334).storedHead(true, 60, 65475).bytes(content(50)).cut());
         Unpacking.tooMany("one stored byte more", before(16334).storedHead(true, 60, 65475).bytes(content(51)).cut());
         Unpacking.broken("told codes", before(16384).told(true, new int[257], new int[1]).literal(256).endWithout(content(16384)));
         Unpacking.broken("a copy without distances", before(16384).told(true, copies(), new int[1]).literal(257).bit(0).endWithout(content(9)));
         Unpacking.broken("kind 3", before(16384).number(7, 3).endWithout(content(16384)));
         brokenInsideACopy();
         brokenInsideALiteral();
+        noStoredByteAtTheLimit();
+    }
+
+    /** The next byte is missing and would be one too many: the document does not say which comes first. */
+    private static void noStoredByteAtTheLimit() {
+        Unpacking.refused("no byte of a stored block", before(16384).storedHead(true, 50, 65485).cut());
+        Unpacking.refused("the stored bytes end at the limit", before(16334).storedHead(true, 60, 65475).bytes(content(50)).cut());
     }
 
     private static int[] copies() {

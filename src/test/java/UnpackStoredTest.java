@@ -9,6 +9,9 @@ public final class UnpackStoredTest {
         whatIsSkipped();
         tooFewBytes();
         copiesFromStored();
+        everySkippedWord();
+        theTwoNumbers();
+        asManyBytesAsTold();
         Check.finish();
     }
 
@@ -65,5 +68,53 @@ public final class UnpackStoredTest {
         byte[] content = Boxes.bytes(10, 20, 30, 40, 10, 20, 30, 40, 10);
         byte[] tape = Bits.zlib().stored(false, stored).fixed(true).copy(259, 0, 0, 3).end(content);
         Unpacking.good("a copy from a stored block", tape, content);
+    }
+
+    /** "up to the next byte's beginning nothing counts": five bits here, each word that they can be. */
+    private static void everySkippedWord() {
+        byte[] content = Boxes.bytes(9, 8, 7);
+        for (int word = 0; word < 32; word++) {
+            Bits bits = Bits.zlib().number(1, 1).number(0, 2).number(word, 5).number(3, 16).number(65532, 16);
+            Unpacking.good("skipped: " + word, bits.bytes(content).endWithout(content), content);
+        }
+        // Where the block's kind ends a byte, the numbers stand in the very next one.
+        Bits even = Bits.zlib().fixed(false).literal(200).literal(200).literal(200).literal(256);
+        byte[] four = Boxes.bytes(200, 200, 200, 9);
+        Bits right = even.copyOf().number(1, 1).number(0, 2);
+        Check.isTrue("the kind ends a byte", right.atByte());
+        Unpacking.good("nothing is skipped", right.copyOf().number(1, 16).number(65534, 16).number(9, 8).endWithout(four), four);
+        Unpacking.broken("a byte too many is skipped",
+                right.copyOf().number(0, 8).number(1, 16).number(65534, 16).number(9, 8).endWithout(four));
+    }
+
+    /** "two numbers of 16 bits n and 65535 - n": each bit of n, and the numbers beside the right one. */
+    private static void theTwoNumbers() {
+        for (int n = 1; n <= 8192; n *= 2) {
+            byte[] content = Rows.pattern(n);
+            Unpacking.good("n is " + n, Bits.zlib().stored(true, content).endWithout(content), content);
+            for (int wrong : new int[] {65535 - n - 1, 65535 - n + 1, n, 65535, 0}) {
+                byte[] few = Boxes.filled(n, 1);
+                Unpacking.broken(n + " and " + wrong, Bits.zlib().storedHead(true, n, wrong).bytes(few).endWithout(few));
+            }
+        }
+        Unpacking.good("0 and 65535", Bits.zlib().storedHead(true, 0, 65535).endWithout(new byte[0]), new byte[0]);
+        Unpacking.broken("0 and 65534", Bits.zlib().storedHead(true, 0, 65534).endWithout(new byte[0]));
+        Unpacking.broken("1 and 65535", Bits.zlib().storedHead(true, 1, 65535).bytes(new byte[1]).endWithout(new byte[1]));
+        byte[] other = Bits.zlib().number(1, 1).number(0, 2).toByte().code(3, 16).code(65532, 16).bytes(new byte[3]).endWithout(new byte[3]);
+        Unpacking.broken("numbers with their highest bit first", other);
+    }
+
+    /** "n bytes": one byte more or less than told moves what stands behind. */
+    private static void asManyBytesAsTold() {
+        for (int n : new int[] {0, 1, 2, 255, 256, 300}) {
+            byte[] content = Boxes.filled(n, 33);
+            byte[] more = Boxes.filled(n + 1, 33);
+            Unpacking.good(n + " of " + n, Bits.zlib().storedHead(true, n, 65535 - n).bytes(content).endWithout(content), content);
+            Unpacking.broken((n + 1) + " of " + n, Bits.zlib().storedHead(true, n, 65535 - n).bytes(more).endWithout(content));
+            Unpacking.broken(n + " of " + (n + 1), Bits.zlib().storedHead(true, n + 1, 65534 - n).bytes(content).endWithout(content));
+        }
+        for (int n : new int[] {5, 9, 32767, 32768, 65534, 65535}) {
+            Unpacking.broken("4 bytes of " + n, Bits.zlib().storedHead(true, n, 65535 - n).bytes(new byte[4]).cut());
+        }
     }
 }

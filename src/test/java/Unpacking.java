@@ -34,6 +34,19 @@ final class Unpacking {
         onlyTheTapeIsEmpty(what, x);
     }
 
+    /** Thrown is one of the two, and the state is what it has to be behind both. */
+    static void refused(String what, byte[] tape) {
+        ZlibBox x = boxWithResult(tape);
+        boolean thrown = false;
+        try {
+            x.unpack();
+        } catch (UnsupportedOperationException | IndexOutOfBoundsException e) {
+            thrown = true;
+        }
+        Check.isTrue(what + ": unpack() throws", thrown);
+        onlyTheTapeIsEmpty(what, x);
+    }
+
     private static ZlibBox boxWithResult(byte[] tape) {
         ZlibBox x = new ZlibBox();
         x.pack();

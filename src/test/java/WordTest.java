@@ -4,6 +4,7 @@ public final class WordTest {
         everyPlaceOfAShortResult();
         theEndOfTheLongestResult();
         bytesLeftOverAreNotSeen();
+        theEndsOfResults();
         Check.finish();
     }
 
@@ -59,6 +60,21 @@ public final class WordTest {
             Check.due("word(0)", x.word(0), 0x0102030000000000L);
             Check.due("word(2)", x.word(2), 3L << 56);
             Check.throwsDue("word(3)", IndexOutOfBoundsException.class, () -> x.word(3));
+        }
+    }
+
+    /** "zeros behind its end; i is none of its bytes": results of 0, 1, 7, 8, 9 and 16384 bytes. */
+    private static void theEndsOfResults() {
+        for (int length : new int[] {0, 1, 2, 7, 8, 9, 15, 16, 17, 255, 256, 257, 16383, 16384}) {
+            Held x = Held.unpacked("a result of " + length, Rows.pattern(length)).stateDue();
+            for (int i = Math.max(0, length - 17); i < length; i++) {
+                x.word(i);
+            }
+            x.wordRefused(-1).wordRefused(-8).wordRefused(Integer.MIN_VALUE);
+            x.wordRefused(length).wordRefused(length + 1).wordRefused(length + 7).wordRefused(length + 8);
+            x.wordRefused(65536).wordRefused(Integer.MAX_VALUE).wordRefused(Integer.MAX_VALUE - 7);
+            // The tape's bytes are none of the result's.
+            x.feed(-1, -1, -1, -1, -1).wordRefused(length).again().stateDue();
         }
     }
 }
