@@ -13,6 +13,7 @@ public final class UnpackFrameTest {
         theTapeIsUsedUp();
         manyBlocks();
         theEdgesOfHeads();
+        headsSayNothingOfDistances();
         whatStandsBehindTheLastBlock();
         theLastBlockIsTold();
         theFourKinds();
@@ -138,6 +139,18 @@ public final class UnpackFrameTest {
         headDue("a multiple of 31 and 1 more", 0x78, 0x02, false);
         for (int f = 0x01; f < 256; f += 31) {
             headDue("f / 32 is " + f / 32, 0x78, f, f / 32 % 2 == 0);
+        }
+    }
+
+    /** Copies are "at most 32768 back", whatever c / 16 is. */
+    private static void headsSayNothingOfDistances() {
+        byte[] content = Boxes.filled(16003, 65);
+        byte[] tape = Bits.zlib().fixed(true).run(65, 16000).copy(257, 0, 0, 27).number(16000 - 12289, 12).end(content);
+        for (int kind = 0; kind <= 7; kind++) {
+            int c = 16 * kind + 8;
+            tape[0] = (byte) c;
+            tape[1] = (byte) (31 - 256 * c % 31);
+            Unpacking.good("16000 back where c / 16 is " + kind, tape, content);
         }
     }
 
