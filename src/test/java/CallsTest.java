@@ -2,12 +2,11 @@ import java.util.Random;
 
 /** All promises: "A call that throws changes nothing, but as said.", and 512 calls of one object. */
 public final class CallsTest {
-    private static final byte[] EMPTY_PACKED = Boxes.bytes(120, 1, 3, 0, 0, 0, 0, 1);
-
     public static void main(String[] args) {
         refusedCallsChangeNothing();
         refusedCallsAreNotRemembered();
         theLastCallIsAsRightAsTheFirst();
+        oneKindOfCallToTheLast();
         dearCallsToTheLast();
         refusalsToTheLast();
         randomCalls();
@@ -55,12 +54,30 @@ public final class CallsTest {
             while (x.callsLeft() > 1) {
                 x.adler();
             }
-            lastCall(x, last);
+            callOfKind(x, last);
             Check.due("calls left", x.callsLeft(), 0);
         }
     }
 
-    private static void lastCall(Held x, int kind) {
+    /** The same call again and again; a tape can be unpacked but once, so that others come between there. */
+    private static void oneKindOfCallToTheLast() {
+        for (int kind : new int[] {0, 1, 2, 4, 5, 6, 7}) {
+            Held x = new Held("kind " + kind + " to the last call").pack().again();
+            while (x.callsLeft() > 0) {
+                callOfKind(x, kind);
+            }
+        }
+        Held x = new Held("unpack to the last call");
+        while (x.callsLeft() >= 3) {
+            x.pack().again().unpack(new byte[0]);
+        }
+        ZlibBox y = new ZlibBox();
+        for (int i = 1; i <= Held.MOST_CALLS; i++) {
+            Check.throwsDue("unpack() of nothing, call " + i, UnsupportedOperationException.class, y::unpack);
+        }
+    }
+
+    private static void callOfKind(Held x, int kind) {
         switch (kind) {
             case 0:
                 x.feed(1, 2, 3, 4, 5);
@@ -107,7 +124,7 @@ public final class CallsTest {
         while (x.callsLeft() > 20) {
             x.countRefused(5);
         }
-        x.again().unpack(Reference.unpack(EMPTY_PACKED).content()).stateDue();
+        x.again().unpack(new byte[0]).stateDue();
     }
 
     /** Calls of all kinds in any order, with arguments at and beside the edges, to the last one. */

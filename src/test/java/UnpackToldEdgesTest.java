@@ -214,29 +214,34 @@ public final class UnpackToldEdgesTest {
             literals[256] = 0;
             byte[] tape = Bits.zlib().told(true, literals, new int[] {1}).literal(1).number(0, 20).endWithout(Boxes.bytes(1));
             Unpacking.broken("1 and " + symbol + " have CODES, 256 has none", tape);
-            Unpacking.good("256 has one", Bits.zlib().told(true, endAnd(1, 286), new int[] {1}).literal(1).end(Boxes.bytes(1)), Boxes.bytes(1));
         }
+        byte[] tape = Bits.zlib().told(true, endAnd(1, 286), new int[] {1}).literal(1).end(Boxes.bytes(1));
+        Unpacking.good("1 and 256 have CODES", tape, Boxes.bytes(1));
     }
 
     /** "all words of bits are used up": for each longest length one CODE less, one more, and one that is a bit longer. */
     private static void oneWordMoreOrLess() {
-        byte[] content = Boxes.bytes(0);
         for (int longest = 2; longest <= 15; longest++) {
             int[] right = literalsWithLongest(longest);
-            Unpacking.good("all words of " + longest + " bits", Bits.zlib().told(true, right, NO_DISTANCE).literal(0).end(content), content);
+            Unpacking.good("all words of " + longest + " bits", zeroIn(right), Boxes.bytes(0));
             int spare = lastOf(right);
             int[] less = right.clone();
             less[spare] = 0;
-            Unpacking.broken("one CODE of " + longest + " bits less", Bits.zlib().told(true, less, NO_DISTANCE).literal(0).end(content));
+            Unpacking.broken("one CODE of " + longest + " bits less", zeroIn(less));
             int[] more = right.clone();
             more[255] = longest;
-            Unpacking.broken("one CODE of " + longest + " bits more", Bits.zlib().told(true, more, NO_DISTANCE).literal(0).end(content));
+            Unpacking.broken("one CODE of " + longest + " bits more", zeroIn(more));
             if (longest < 15) {
                 int[] longer = right.clone();
                 longer[spare] = longest + 1;
-                Unpacking.broken("one CODE a bit longer than " + longest, Bits.zlib().told(true, longer, NO_DISTANCE).literal(0).end(content));
+                Unpacking.broken("one CODE a bit longer than " + longest, zeroIn(longer));
             }
         }
+    }
+
+    /** One byte 0 in these CODES. */
+    private static byte[] zeroIn(int[] literals) {
+        return Bits.zlib().told(true, literals, NO_DISTANCE).literal(0).end(Boxes.bytes(0));
     }
 
     /** The last symbol of the longest length that is neither the end nor the first. */
