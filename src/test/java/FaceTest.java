@@ -20,6 +20,21 @@ public final class FaceTest {
     };
 
     public static void main(String[] args) {
+        theClassAndItsConstructor();
+        theEightMethods();
+        nothingElseIsSeen();
+        noOtherMethodBearsAPublicName();
+        Check.finish();
+    }
+
+    private static void theClassAndItsConstructor() {
+        Check.isTrue("the class", Modifier.toString(ZlibBox.class.getModifiers()).equals("public final"));
+        Constructor<?>[] constructors = ZlibBox.class.getDeclaredConstructors();
+        Check.due("how many constructors", constructors.length, 1);
+        Check.isTrue("the constructor", constructors[0].toString().equals("public ZlibBox()"));
+    }
+
+    private static void theEightMethods() {
         Set<String> seen = new TreeSet<>();
         for (Method method : ZlibBox.class.getDeclaredMethods()) {
             if (!Modifier.isPrivate(method.getModifiers())) {
@@ -27,18 +42,34 @@ public final class FaceTest {
             }
         }
         Check.isTrue("the methods are " + seen, seen.equals(new TreeSet<>(Arrays.asList(FACE))));
+    }
+
+    private static void nothingElseIsSeen() {
         for (Field field : ZlibBox.class.getDeclaredFields()) {
             Check.isTrue(field + " is private", Modifier.isPrivate(field.getModifiers()));
         }
-        Constructor<?>[] constructors = ZlibBox.class.getDeclaredConstructors();
-        Check.due("how many constructors", constructors.length, 1);
-        Check.isTrue("the constructor", constructors[0].toString().equals("public ZlibBox()"));
-        Check.isTrue("the class", Modifier.toString(ZlibBox.class.getModifiers()).equals("public final"));
         for (Class<?> inside : ZlibBox.class.getDeclaredClasses()) {
             int modifiers = inside.getModifiers();
             Check.isTrue(inside + " is static", Modifier.isStatic(modifiers));
             Check.isTrue(inside + " is hidden", !Modifier.isPublic(modifiers) && !Modifier.isProtected(modifiers));
         }
-        Check.finish();
+    }
+
+    private static void noOtherMethodBearsAPublicName() {
+        Set<String> names = new TreeSet<>();
+        for (Method method : ZlibBox.class.getDeclaredMethods()) {
+            if (Modifier.isPublic(method.getModifiers())) {
+                names.add(method.getName());
+            }
+        }
+        for (Method method : ZlibBox.class.getDeclaredMethods()) {
+            boolean other = !Modifier.isPublic(method.getModifiers());
+            Check.isTrue(method + " has a name of its own", !other || !names.contains(method.getName()));
+        }
+        for (Class<?> inside : ZlibBox.class.getDeclaredClasses()) {
+            for (Method method : inside.getDeclaredMethods()) {
+                Check.isTrue(method + " has a name of its own", !names.contains(method.getName()));
+            }
+        }
     }
 }
